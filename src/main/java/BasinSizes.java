@@ -471,9 +471,9 @@ public final class BasinSizes {
             }
         }
 
-        void endTest(int relation) {
+        void endTest(char relation) {
             if (tests < relations.length) {
-                relations[tests] = (char) relation;
+                relations[tests] = relation;
                 tests++;
             }
         }
@@ -575,7 +575,6 @@ public final class BasinSizes {
 
         void clear() {
             used = 0;
-            at = 0;
         }
 
         boolean collect(char sign) {

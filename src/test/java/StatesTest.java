@@ -14,6 +14,7 @@ public final class StatesTest {
         whatALetterMeans();
         sumsAndRelations();
         theFirstState();
+        allTestsOfAllStates();
         rangesOfAState();
         heads();
         headsBehindEarlierStates();
@@ -258,6 +259,28 @@ public final class StatesTest {
         CHECK.due("none", x.state(0, 3, 0, 0), -1);
         CHECK.due("the first of two", x.state(0, 1, 0, 0), 0);
         CHECK.due("the second of two", x.state(0, 2, 0, 0), 1);
+    }
+
+    /** Each of the 30 tests alone decides once whether its state holds. */
+    private static void allTestsOfAllStates() {
+        BasinSizes x = new BasinSizes();
+        for (int i = 0; i < 5; i++) {
+            x.culvert(1 + i, 1, 1, 1);
+        }
+        StringBuilder text = new StringBuilder();
+        for (int state = 0; state < 6; state++) {
+            text.append(state == 0 ? "" : ";").append("t=").append(state).append("&w<5&q<3&h<2&h>0");
+        }
+        CHECK.due("told", Check.tell(x, text.toString()), 6);
+        for (int state = 0; state < 6; state++) {
+            CHECK.due("all hold", x.state(3, 1, state, 2), state);
+            CHECK.due("not the first", x.state(3, 1, state + 6, 2), -1);
+            CHECK.due("not the second", x.state(4, 1, state, 2), -1);
+            CHECK.due("not the third", x.state(3, 1, state, 3), -1);
+            CHECK.due("not the fourth", x.state(3, 2, state, 2), -1);
+            CHECK.due("not the fifth", x.state(3, 0, state, 2), -1);
+            CHECK.due("head", x.head(3, state, state, 2), 1);
+        }
     }
 
     private static void rangesOfAState() {
