@@ -12,7 +12,7 @@ public final class AnyArgumentsTest {
         Check check = new Check("AnyArgumentsTest");
         for (int run = 0; run < 400; run++) {
             BasinSizes x = new BasinSizes();
-            for (int call = 0; call < 350; call++) {
+            for (int call = 0; call < 300; call++) {
                 test.call(x);
             }
             check.due("the object still answers", x.count(7), -1);

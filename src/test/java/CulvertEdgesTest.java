@@ -18,6 +18,8 @@ public final class CulvertEdgesTest {
         none();
         firstOfSeveral();
         allTestsHold();
+        allThirtyTestsHold();
+        asksDoNotMix();
         belowAboveEqual();
         sumsIn64Bits();
         culvertOfAHead();
@@ -242,6 +244,44 @@ public final class CulvertEdgesTest {
             stateOf(String.join("&", tests), 0, 0, 0, -1);
             stateOf(String.join("&", tests) + ";0=0", 0, 0, 0, 1);
             tests[i] = "0=0";
+        }
+    }
+
+    /** Six states of five tests: in each of them each test alone can keep it from holding. */
+    private static void allThirtyTestsHold() {
+        for (int state = 0; state < 6; state++) {
+            for (int broken = -1; broken < 5; broken++) {
+                StringBuilder text = new StringBuilder();
+                for (int i = 0; i < 6; i++) {
+                    for (int test = 0; test < 5; test++) {
+                        boolean holds = i > state || (i == state && test != broken);
+                        text.append(i + test == 0 ? "" : test == 0 ? ";" : "&");
+                        text.append(holds || (i < state && test != i % 5) ? "h=7" : "h>7");
+                    }
+                }
+                int due = broken < 0 ? state : state < 5 ? state + 1 : -1;
+                stateOf(text.toString(), 7, 0, 0, due);
+                headOf(text.toString(), state, broken < 0 ? 7 : -1);
+            }
+        }
+    }
+
+    /** One ask after another, with other numbers: no answer depends on the asks before. */
+    private static void asksDoNotMix() {
+        BasinSizes x = new BasinSizes();
+        two(x);
+        for (int round = 0; round < 2; round++) {
+            CHECK.due("first culvert", x.state(0, 801, 0, 1), 0);
+            CHECK.due("less h", x.state(0, 800, 0, 1), 1);
+            CHECK.due("more t", x.state(0, 801, 1, 1), 1);
+            CHECK.due("more q", x.state(0, 801, 1, 2), 0);
+            CHECK.due("head", x.head(0, 0, 0, 1), 801);
+            CHECK.due("no head", x.head(0, 0, 1, 1), -1);
+            CHECK.due("second culvert", x.state(1, 5, 0, 1), 0);
+            CHECK.due("second culvert, less h", x.state(1, 4, 0, 1), 1);
+            CHECK.due("head of the second", x.head(1, 0, 0, 1), 5);
+            CHECK.due("head of the second, other state", x.head(1, 1, 0, 1), 0);
+            CHECK.due("refused", x.state(2, 5, 0, 1), -1);
         }
     }
 

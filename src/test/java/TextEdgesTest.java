@@ -28,6 +28,7 @@ public final class TextEdgesTest {
         lastWrongSign();
         statesStay();
         longestText();
+        textsInTurn();
         CHECK.finish();
     }
 
@@ -433,5 +434,22 @@ public final class TextEdgesTest {
         wrong(text.toString(), 300);
         good(text.substring(0, 298) + "+h", 6);
         wrong(text.substring(0, 298) + "&0", 299);
+    }
+
+    /** "What was collected becomes the states": nothing of the texts before, good or wrong, is left in them. */
+    private static void textsInTurn() {
+        BasinSizes x = new BasinSizes();
+        x.culvert(3, 4, 5, 6);
+        for (int i = 1; i <= 10; i++) {
+            CHECK.due("a long text " + i, Check.tell(x, "h+t+w=" + (i + 3) + "&q=1&q=1&q=1;h=9&t=9"), 2);
+            CHECK.due("holds " + i, x.state(0, i, 0, 1), 0);
+            CHECK.due("holds not " + i, x.state(0, i - 1, 0, 1), -1);
+            CHECK.due("a short text " + i, Check.tell(x, "h=" + i), 1);
+            CHECK.due("one state " + i, x.count(3), 1);
+            CHECK.due("holds alone " + i, x.state(0, i, 9, 9), 0);
+            CHECK.due("holds not alone " + i, x.state(0, i + 1, 0, 1), -1);
+            CHECK.due("a wrong text " + i, Check.tell(x, "q=q&"), -5);
+            CHECK.due("still holds alone " + i, x.head(0, 0, 0, 0), i);
+        }
     }
 }
