@@ -19,6 +19,8 @@ public final class FaceTest {
         Check check = new Check("FaceTest");
         Class<?> face = BasinSizes.class;
         check.due("public final", face.getModifiers(), Modifier.PUBLIC | Modifier.FINAL);
+        check.due("a class of its own", face.getSuperclass() == Object.class && face.getInterfaces().length == 0, true);
+        check.due("without a package", face.getPackageName().isEmpty(), true);
 
         Set<String> seen = new TreeSet<>();
         for (Method m : face.getDeclaredMethods()) {
@@ -29,8 +31,10 @@ public final class FaceTest {
         }
         check.due("the methods " + seen, seen.equals(DUE), true);
 
+        int fields = 0;
         for (Field f : face.getDeclaredFields()) {
             if (!Modifier.isPrivate(f.getModifiers())) {
+                fields++;
                 check.due("only BAD is seen, not " + f.getName(), f.getName().equals("BAD"), true);
                 check.due("modifiers of " + f.getName(), f.getModifiers(),
                         Modifier.PUBLIC | Modifier.STATIC | Modifier.FINAL);
@@ -38,12 +42,24 @@ public final class FaceTest {
                 check.due("BAD", f.getInt(null), -1);
             }
         }
+        check.due("one constant", fields, 1);
 
         Constructor<?>[] constructors = face.getDeclaredConstructors();
         check.due("one constructor", constructors.length, 1);
         check.due("it is public", constructors[0].getModifiers(), Modifier.PUBLIC);
         check.due("it takes nothing", constructors[0].getParameterCount(), 0);
+        check.due("a constant of the compiler", isConstant(-1), true);
         check.finish();
+    }
+
+    /** Compiles only if BAD may stand behind a case. */
+    private static boolean isConstant(int number) {
+        switch (number) {
+            case BasinSizes.BAD:
+                return true;
+            default:
+                return false;
+        }
     }
 
     private static String text(Method m) {

@@ -7,6 +7,7 @@ public final class ObjectEdgesTest {
         nothingIsThere();
         numbersOfCount();
         countsFromNothingToAll();
+        allAtTheirMostInOne();
         asksLeaveNoTrace();
         lastOf512Calls();
         objectsAreApart();
@@ -87,6 +88,49 @@ public final class ObjectEdgesTest {
                 CHECK.due("count " + other + " beside " + name, x.count(other), 0);
             }
         }
+    }
+
+    /** One object with all that 512 calls let it hold: 40, 20, 8, 6, 50, 300, and 48 of 400 days; none takes from another. */
+    private static void allAtTheirMostInOne() {
+        BasinSizes x = new BasinSizes();
+        Check.tell(x, "h=0;h=1;h=2;h=3;h=4;h=t");
+        for (int i = 1; i <= 40; i++) {
+            CHECK.due("rain " + i, x.rain(1000, 100 + i, 100 + i), i);
+        }
+        for (int i = 1; i <= 20; i++) {
+            CHECK.due("level " + i, x.level(i, i), i);
+        }
+        for (int i = 0; i < 8; i++) {
+            CHECK.due("culvert " + i, x.culvert(1 + i, 1, 1, 0), i);
+        }
+        for (int i = 1; i <= 50; i++) {
+            CHECK.due("place " + i, x.way(i < 50 ? -i : 0), i);
+        }
+        for (int i = 1; i <= 48; i++) {
+            CHECK.due("day " + i, x.day(10), i);
+        }
+        for (int i = 0; i < 300; i++) {
+            CHECK.due("sign " + i, x.unit(i < 297 ? ' ' : "w=8".charAt(i - 297)), true);
+        }
+        // 490 calls so far.
+        long[] due = {40, 20, 8, 6, 48, 50, 300};
+        for (int what = 0; what <= 6; what++) {
+            CHECK.due("count " + what + " of all", x.count(what), due[what]);
+        }
+        CHECK.due("volume of all", x.volume(1000, 100, 0), 1400);
+        CHECK.due("by of all", x.by(1000, 100, 0), 140);
+        CHECK.due("outflow of all", x.outflow(1000, 1000, 0), 2);
+        CHECK.due("content of all", x.content(20), 5 * (20 * 20 - 1));
+        CHECK.due("fill of all", x.fill(5 * (20 * 20 - 1)), 20);
+        CHECK.due("head of all", x.head(7, 5, 5, 0), 5);
+        CHECK.due("stops of all", x.stops(), 49);
+        CHECK.due("room of all", x.room(4, 47), 6);
+        CHECK.due("run of all", x.run(4, 0), 48);
+        CHECK.due("behind all", x.behind(47, 3), 6 * 48);
+        CHECK.due("states of all", x.states(), 1);
+        CHECK.due("state of all", x.state(7, 0, 0, 0), 0);
+        CHECK.due("state of all but the last", x.state(6, 0, 0, 0), -1);
+        CHECK.due("states behind all", x.count(3), 1);
     }
 
     /** "Nothing is promised beyond the answers and state changes described above". */
